@@ -82,8 +82,8 @@ public final class CakesToTheWatched {
       case 3: return one.wish;
       case 4: return one.eaten;
       case 5: return one.watched;
-      case 6: return one.kind.biteWith(one.figure);
-      case 7: return one.kind.gazeWith(one.figure);
+      case 6: return one.bite;
+      case 7: return one.gaze;
       case 8: return one.kind.shyness;
       default: return NO_SUCH;
     }
@@ -273,8 +273,7 @@ public final class CakesToTheWatched {
       return NO_SUCH;
     }
     Person one = now.people[p];
-    int bite = one.kind.biteWith(one.figure);
-    return bite > 0 ? (one.hunger + bite - 1) / bite : 0;
+    return one.bite > 0 ? (one.hunger + one.bite - 1) / one.bite : 0;
   }
 
   // ---- prices, swaps, throats
@@ -737,7 +736,7 @@ public final class CakesToTheWatched {
     switch (text.at(place)) {
       case 'p': return tellPerson(first, second, text.twoDigitsAt(place + 3), text.twoDigitsAt(place + 5));
       case 'c': return tellSlices(text.twoDigitsAt(place + 1));
-      case 't': return tellTurn(first, second);
+      case 't': return trial.mayTurn(first, second) && trial.turn(first, second) >= 0;
       case 'h': return tellHunger(first, text.twoDigitsAt(place + 2));
       case 'l': return tellWish(first, text.twoDigitsAt(place + 2));
       default: return false;
@@ -754,14 +753,6 @@ public final class CakesToTheWatched {
       return false;
     }
     trial.slicesLeft = slices;
-    return true;
-  }
-
-  private boolean tellTurn(int p, int looker) {
-    if (!trial.mayTurn(p, looker)) {
-      return false;
-    }
-    trial.turn(p, looker);
     return true;
   }
 
@@ -1019,14 +1010,28 @@ public final class CakesToTheWatched {
   private static final class Person {
     Kind kind = Kind.GUEST;
     int figure;
+    // Neither changes once one has come, so that they are reckoned only then.
+    int bite;
+    int gaze;
     int hunger;
     int wish;
     int eaten;
     int watched;
 
+    void comeAs(Kind ofKind, int withFigure) {
+      kind = ofKind;
+      figure = withFigure;
+      bite = ofKind.biteWith(withFigure);
+      gaze = ofKind.gazeWith(withFigure);
+      eaten = 0;
+      watched = 0;
+    }
+
     void becomes(Person other) {
       kind = other.kind;
       figure = other.figure;
+      bite = other.bite;
+      gaze = other.gaze;
       hunger = other.hunger;
       wish = other.wish;
       eaten = other.eaten;
@@ -1038,11 +1043,11 @@ public final class CakesToTheWatched {
     }
 
     int stilledHunger() {
-      return Math.min(kind.biteWith(figure), hunger);
+      return Math.min(bite, hunger);
     }
 
     int stilledWish() {
-      return Math.min(kind.gazeWith(figure), wish);
+      return Math.min(gaze, wish);
     }
   }
 
@@ -1082,12 +1087,9 @@ public final class CakesToTheWatched {
         return false;
       }
       Person one = people[size];
-      one.kind = kind;
-      one.figure = figure;
+      one.comeAs(kind, figure);
       one.hunger = hunger;
       one.wish = wish;
-      one.eaten = 0;
-      one.watched = 0;
       size++;
       return true;
     }

@@ -85,6 +85,9 @@ public final class LastOnesTest {
     CakesToTheWatched y = Check.of("p000000;p000000;");
     check.due("0", y.mean(0), 0);
     check.due("by 1", y.mean(1), 1);
+    CakesToTheWatched alone = Check.of("p000900;");
+    check.due("alone", alone.mean(0), 9);
+    check.due("alone by 1", alone.mean(1), 1);
     check.due("nobody", new CakesToTheWatched().mean(0), 0);
     check.due("nobody's 1", new CakesToTheWatched().mean(1), 1);
   }
