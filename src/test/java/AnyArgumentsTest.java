@@ -50,15 +50,16 @@ public final class AnyArgumentsTest {
     check.due("constructors", CakesToTheWatched.class.getConstructors().length, 1);
   }
 
+  /** No more than 512 calls, so that the last answers are promised, too. */
   private static void oneRun(Random random, Method[] calls) {
     CakesToTheWatched x = new CakesToTheWatched();
     int ofSense = random.nextInt(10);
-    for (int i = 0; i < 512; i++) {
+    for (int i = 0; i < 350; i++) {
       Method m = calls[random.nextInt(calls.length)];
       if (!Modifier.isPublic(m.getModifiers())) {
         continue;
       }
-      if (random.nextInt(8) == 0) {
+      if (i % 8 == 0) {
         x.keep(random.nextInt(8), 1, random.nextInt(8), random.nextInt(10));
         x.slices(random.nextInt(100));
       }
