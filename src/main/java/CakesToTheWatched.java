@@ -32,6 +32,10 @@ public final class CakesToTheWatched {
   private static final int BYTES = 0;
   private static final int SHORTS = 1;
   private static final int INTS = 2;
+  private static final int LEAST_BYTE = -128;
+  private static final int LEAST_SHORT = -32768;
+  private static final int LEAST_INT = -2147483648;
+  private static final int ALL_BUT_THE_SIGN = 2147483647;
 
   private static final Kind[] KINDS = Kind.values();
 
@@ -76,7 +80,7 @@ public final class CakesToTheWatched {
     }
     Person one = now.people[p];
     switch (what) {
-      case 0: return one.kind.ordinal();
+      case 0: return one.kind.number;
       case 1: return one.figure;
       case 2: return one.hunger;
       case 3: return one.wish;
@@ -948,28 +952,30 @@ public final class CakesToTheWatched {
   }
 
   private static int drawn(int z, int below) {
-    return below > 0 ? (z & Integer.MAX_VALUE) / 65536 % below : 0;
+    return below > 0 ? (z & ALL_BUT_THE_SIGN) / 65536 % below : 0;
   }
 
   // ---- the classes
 
   /** What a kind has by itself; what a figure does to it is in the methods. */
   private enum Kind {
-    GUEST(3, 2, 0, 4),
-    CHILD(5, 1, 1, 3),
-    DEACON(3, 4, 1, 4),
-    TASTER(1, 2, 0, 10),
-    BLIND(3, 0, 0, 2),
-    EXPERT(2, 4, 0, 10),
-    TWIN(2, 1, 2, 6),
-    COW(9, 0, 0, 1);
+    GUEST(0, 3, 2, 0, 4),
+    CHILD(1, 5, 1, 1, 3),
+    DEACON(2, 3, 4, 1, 4),
+    TASTER(3, 1, 2, 0, 10),
+    BLIND(4, 3, 0, 0, 2),
+    EXPERT(5, 2, 4, 0, 10),
+    TWIN(6, 2, 1, 2, 6),
+    COW(7, 9, 0, 0, 1);
 
+    final int number;
     final int bite;
     final int gaze;
     final int shyness;
     final int price;
 
-    Kind(int bite, int gaze, int shyness, int price) {
+    Kind(int number, int bite, int gaze, int shyness, int price) {
+      this.number = number;
       this.bite = bite;
       this.gaze = gaze;
       this.shyness = shyness;
@@ -1351,9 +1357,9 @@ public final class CakesToTheWatched {
 
     int leastNumber() {
       if (sort == BYTES) {
-        return Byte.MIN_VALUE;
+        return LEAST_BYTE;
       }
-      return sort == SHORTS ? Short.MIN_VALUE : Integer.MIN_VALUE;
+      return sort == SHORTS ? LEAST_SHORT : LEAST_INT;
     }
   }
 }

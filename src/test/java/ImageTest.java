@@ -5,6 +5,7 @@ public final class ImageTest {
   public static void main(String[] args) {
     theImage();
     theImageOfNobody();
+    objectsAreApart();
     counts();
     check.end();
   }
@@ -51,6 +52,29 @@ public final class ImageTest {
     check.due("comes anew", x.comes(0, 5, 5), 0);
     check.due("has had none", x.person(0, 4), 0);
     check.due("has watched none", x.person(0, 5), 0);
+  }
+
+  private static void objectsAreApart() {
+    CakesToTheWatched x = Check.of("p000909;p250909;c07;t01;");
+    x.keep(0, 1, 3, 3);
+    x.image();
+    CakesToTheWatched y = new CakesToTheWatched();
+    check.due("another's people", y.count(0), 0);
+    check.due("another's slices", y.count(1), 0);
+    check.due("another's shelf", y.cost(0), -11);
+    check.due("another's row", y.fete(7), -11);
+    check.due("another's image", y.restore(), -3);
+    String before = Check.told(x);
+    Check.tell(y, "p700101;p700101;p700101;c03;t01;");
+    y.image();
+    y.keep(0, 0, 0, 0);
+    y.pairs(0);
+    check.holds("the first stays", before.equals(Check.told(x)));
+    check.due("the first's shelf", x.cost(0), 10);
+    check.due("the first's row", x.element(7, 0), 'p');
+    check.due("the first's row's length", x.copy(7, 24, 7, 0, 0), 0);
+    check.due("the first's image", x.restore(), 1);
+    check.holds("the first restored", before.equals(Check.told(x)));
   }
 
   private static void counts() {

@@ -76,6 +76,7 @@ public final class LastOnesEdgesTest {
     doc.holds("JOYLESS: as they CAN now", "tell(p603000;p000000;c09;t01;) | joyless() = 1 | slices(0) | joyless() = 0 | slices(1) | joyless() = 1 | feels(0, 0, 0) | joyless() = 0");
     doc.holds("JOYLESS: JOYS 0, of both together", "tell(p603000;p000000;c09;t01;) | joyless() = 1 | feels(1, 1, 1) | joyless() = 0");
     doc.holds("JOYLESS: JOYS above 0 by who eats", "tell(p103000;p000000;c99;t01;t01;t01;t01;) | joyless() = 0 | eats(0, 1) = 1 | joyless() = 1 | feels(0, 0, 6) | joyless() = 1 | feels(0, 0, 4) | eats(0, 1) = 0 | joyless() = 0");
+    doc.holds("JOYLESS: watched by the first of all", "tell(p000000;p603000;c09;t10;) | joyless() = 1");
     doc.holds("JOYLESS: how many", "tell(p603000;p603000;p000000;p700000;c99;t02;) | joyless() = 2 | eats(0, 3) = 2 | joyless() = 4 | feels(1, 0, 0) | joyless() = 2");
   }
 
@@ -84,7 +85,7 @@ public final class LastOnesEdgesTest {
         seen(0) = 0 | seen(1) = -1 | seen(-1) = -1 | seen(-2147483648) = -1 | seen(256) = -1
         tell(p000909;p000909;c09;) | seen(3) = 0 | seen(4) = -1 | seen(5) = -1 | seen(7) = -1 | seen(2147483647) = -1
         """);
-    doc.holds("SEEN: bits of eight", EIGHT + "seen(255) = 0 | seen(256) = -1 | seen(128) = 7 | seen(127) = 1 | seen(0) = 8 | seen(-1) = -1 | seen(-256) = -1");
+    doc.holds("SEEN: bits of eight", EIGHT + "seen(255) = 0 | seen(256) = -1 | seen(128) = 7 | seen(254) = 1 | seen(127) = 1 | seen(0) = 8 | seen(-1) = -1 | seen(-256) = -1");
     doc.holds("SEEN: nobody in the set", "tell(p000909;p400909;p000009;) | seen(0) = 2 | slices(9) | seen(0) = 2 | eats(0, 2) = 5 | seen(0) = 1");
     doc.holds("SEEN: 0 if one of the set can not eat", """
         tell(p000909;p000009;p000909;c09;)

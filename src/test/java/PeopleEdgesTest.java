@@ -44,6 +44,8 @@ public final class PeopleEdgesTest {
         """);
     doc.holds("Promise 1: no SLICES", "count(1) = 0 | slices(0) = 0");
     doc.holds("SLICES (0 at first), STEP (0 at first)", "count(2) = 0 | image() = 0 | slices(5) = 0");
+    doc.holds("An object is used for at most 512 calls: the last of them", "tell(p000909;p000909;c09;) = 3\n"
+        + "pairs(-1) = 5\n".repeat(485) + "eats(0, 1) = 5 | eats(0, 1) = 5 | eats(0, 1) = 5 | count(2) = 3 | count(1) = 6");
     doc.holds("all that is counted is 0 at first", "count(3) = 0 | count(4) = 0 | count(5) = 0");
   }
 
@@ -438,6 +440,7 @@ public final class PeopleEdgesTest {
     doc.holds("one who CAN not EAT so: no HUNGER", "tell(p000009;p000909;c05;) | tell(t01;) = -2000 | tell(h003;t01;t01;) = -2009 | tell(h001;t01;) = 2");
     doc.holds("one who CAN not EAT so: watched by a BLIND one", "tell(p000909;p400909;c05;) | tell(t01;) = -2000 | tell(t10;) = 1");
     doc.holds("one who CAN not EAT so: watched by one who has eaten", "tell(p000909;p000909;c05;t01;) | tell(t10;) = -2000 | tell(t01;) = 1");
+    doc.holds("a TURN with JOYS 0 is a TURN", "tell(p603000;p000000;c09;t01;t01;) = 5 | person(0, 4) = 2 | person(0, 2) = 26 | count(1) = 7 | eats(0, 1) = 0");
     doc.holds("no room", "tell(" + "p000000;".repeat(7) + ") = 7 | tell(c05;p000000;p000000;) = -2012 | count(0) = 7 | tell(c05;p000000;) = 2");
     doc.holds("the place of the letter of the first STATEMENT", """
         tell(h000;t00;p900000;) = -2000 | tell(c05;t00;h000;) = -2004 | tell(p000000;c05;l031;h031;) = -2012

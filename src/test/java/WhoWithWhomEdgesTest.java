@@ -7,6 +7,7 @@ public final class WhoWithWhomEdgesTest {
     who();
     bestPair();
     bestPairNone();
+    lastTwoOfEight();
     bestLooker();
     twoTurns();
     pairs();
@@ -63,6 +64,20 @@ public final class WhoWithWhomEdgesTest {
     doc.holds("BEST PAIR -4: no SLICES", "tell(p000909;p000909;) | bestPair(0) = -4 | bestPair(1) = -4 | slices(1) | bestPair(0) = 1");
     doc.holds("BEST PAIR -4: no HUNGER", "tell(p000009;p000009;c09;) | bestPair(0) = -4 | bestPair(1) = -4 | feels(1, 0, 1) | bestPair(0) = 10");
     doc.holds("BEST PAIR -4: nobody who CAN LOOK", "tell(p400909;p400909;c09;) | bestPair(0) = -4 | bestPair(1) = -4");
+  }
+
+  private static void lastTwoOfEight() {
+    String others = "p400000;p400000;p400000;p400000;p400000;p400000;";
+    doc.holds("BEST PAIR of eight: 7 watched by 6, again and again", "tell(" + others + "p590030;p000700;c09;) = 9\n" + """
+        bestPair(0) = 76 | bestPair(1) = 13 | twoTurns(0) = 26 | twoTurns(1) = 76
+        greedily(30, 0) = 37 | greedily(30, 1) = 3 | bring(9) = -4 | pairs(-1) = 13 | pairs(7) = 6 | pairs(6) = 9
+        hold(0, 0, 13, 13, 11) | judge(0) = -4 | hold(0, 0, 7, 6, 7, 6) | forged(0) = -4 | stuck() = 0
+        """);
+    doc.holds("BEST PAIR of eight: 6 watched by 7, again and again", "tell(" + others + "p000700;p590030;c09;) = 9\n" + """
+        bestPair(0) = 67 | bestPair(1) = 13 | twoTurns(0) = 26 | twoTurns(1) = 67
+        greedily(30, 0) = 37 | greedily(30, 1) = 3 | bring(9) = -4 | pairs(-1) = 13 | pairs(6) = 7 | pairs(7) = 9
+        hold(0, 0, 13, 13, 11) | judge(0) = -4 | hold(0, 0, 6, 7, 6, 7) | forged(0) = -4 | stuck() = 0
+        """);
   }
 
   private static void bestLooker() {
@@ -130,6 +145,10 @@ public final class WhoWithWhomEdgesTest {
         tell(p103000;p000030;p000030;p003000;p303000;c99;t41;t41;t41;h400;)
         pairs(-1) = 12 | pairs(0) = 2 | pairs(1) = 9 | pairs(3) = 1 | pairs(4) = 9
         """);
+    doc.holds("PAIRS: twos apart, who eats too", """
+        tell(p000009;p700900;p000009;p000000;c09;)
+        pairs(-1) = 11 | pairs(0) = 9 | pairs(1) = 0 | pairs(2) = 9 | pairs(3) = 9
+        """);
     doc.holds("PAIRS: each a TURN", """
         tell(p000009;p400909;p000009;c09;)
         pairs(-1) = 5 | pairs(0) = 9 | pairs(1) = 0 | pairs(2) = 9
@@ -166,6 +185,15 @@ public final class WhoWithWhomEdgesTest {
     doc.holds("PAIRS: then for 1, .. of those not in a pair yet", """
         tell(p000909;p000909;p000909;p000909;p000909;c09;)
         pairs(0) = 1 | pairs(1) = 9 | pairs(2) = 3 | pairs(3) = 9 | pairs(4) = 9
+        """);
+    doc.holds("PAIRS: of those not in a pair yet, when who eats was in one", """
+        tell(p000009;p000909;p000909;p000909;c09;)
+        pairs(-1) = 10 | pairs(0) = 9 | pairs(1) = 0 | pairs(2) = 3 | pairs(3) = 9
+        slices(1) | pairs(-1) = 5 | pairs(1) = 0 | pairs(2) = 9 | pairs(3) = 9
+        """);
+    doc.holds("PAIRS: of those not in a pair yet, when who looks was in one", """
+        tell(p000900;p400909;p400000;p000009;p000009;c09;)
+        pairs(-1) = 10 | pairs(0) = 3 | pairs(1) = 4 | pairs(2) = 9 | pairs(3) = 9 | pairs(4) = 9
         """);
   }
 
