@@ -1,3 +1,4 @@
+import java.lang.reflect.Field;
 import java.lang.reflect.InvocationTargetException;
 import java.lang.reflect.Method;
 import java.lang.reflect.Modifier;
@@ -48,6 +49,25 @@ public final class AnyArgumentsTest {
     check.holds("the face", found.equals(wanted));
     check.holds("final", Modifier.isFinal(CakesToTheWatched.class.getModifiers()));
     check.due("constructors", CakesToTheWatched.class.getConstructors().length, 1);
+    check.due("constructors, private ones too", CakesToTheWatched.class.getDeclaredConstructors().length, 1);
+    nothingElseIsSeen();
+  }
+
+  private static void nothingElseIsSeen() {
+    for (Field f : CakesToTheWatched.class.getDeclaredFields()) {
+      check.holds(f.getName() + " is private", Modifier.isPrivate(f.getModifiers()));
+    }
+    for (Class<?> inside : CakesToTheWatched.class.getDeclaredClasses()) {
+      boolean seen = Modifier.isPublic(inside.getModifiers()) || Modifier.isProtected(inside.getModifiers());
+      check.holds(inside.getName() + " is not seen from outside, and static",
+          !seen && Modifier.isStatic(inside.getModifiers()));
+    }
+    for (Method m : CakesToTheWatched.class.getDeclaredMethods()) {
+      String declared = Arrays.toString(m.getExceptionTypes());
+      String wanted = m.getName().equals("element")
+          ? "[class java.lang.IllegalArgumentException, class java.lang.IllegalStateException]" : "[]";
+      check.holds(m.getName() + " declares " + declared + ", due is " + wanted + "; that", declared.equals(wanted));
+    }
   }
 
   /** No more than 512 calls, so that the last answers are promised, too. */
